@@ -20,7 +20,7 @@ public final class SendBench {
     // 12 at work are each within at most three others, and 24 BLOCKS lead to at most three each: 120 can be kept at once.
     private static final int ACTIVATIONS = 128, VARIABLES = 7, ACTIVATION_VARIABLES = ACTIVATIONS * VARIABLES;
     private static final int SELF_AT = 0, ARGS_AT = 1, TEMPS_AT = 3, PARAM_AT = 6;
-    // In each ACTIVATION at work fewer operators are under way than it has TOKENS.
+    // In each ACTIVATION at work fewer operators are under way than it has TOKENS, and one of them becomes the next base.
     private static final int FRAMES = AT_WORK * TOKENS, OPERANDS = 3, FRAME_OPERANDS = FRAMES * OPERANDS;
     private static final int NODES = THINGS + ACTIVATIONS;
 
@@ -489,7 +489,7 @@ public final class SendBench {
     private void openSuper(int at, int needed) {
         int frame = frameCount;
         pushFrame(at);
-        operands[frame * OPERANDS] = variables[homeOf[current] * VARIABLES + SELF_AT];
+        operands[frame * OPERANDS] = selfOfHome();
         frameStage[frame] = 1;
         mode = needed == 0 ? APPLY : READ;
     }
@@ -499,7 +499,7 @@ public final class SendBench {
         switch (kind) {
             case NUM: return v;
             case NOTHING: return NIL;
-            case SELF: return variables[home + SELF_AT];
+            case SELF: return selfOfHome();
             case ARG: return variables[home + ARGS_AT + v];
             case TEMP: return variables[home + TEMPS_AT + v];
             case FIELD: return fieldOfSelf(v);
@@ -510,8 +510,13 @@ public final class SendBench {
         }
     }
 
+    private long selfOfHome() {
+        return variables[homeOf[current] * VARIABLES + SELF_AT];
+    }
+
     private long fieldOfSelf(int j) {
-        int at = fieldPlace(variables[homeOf[current] * VARIABLES + SELF_AT], j);
+        long self = selfOfHome();
+        int at = fieldPlace(self, j);
         if (at != NONE) return thingFields[at];
         outcome = KIND;
         return NIL;
@@ -556,16 +561,13 @@ public final class SendBench {
     }
 
     private void afterIf(int frame) {
-        if (frameStage[frame] == SECOND_ONE) {
-            next = endOfExpression(next);
-            frameCount--;
-            return;
-        }
-        mode = READ;
-        if (isSo(inHand)) {
+        boolean secondIsDone = frameStage[frame] == SECOND_ONE;
+        if (!secondIsDone) mode = READ;
+        if (!secondIsDone && isSo(inHand)) {
             frameStage[frame] = SECOND_ONE;
             return;
         }
+        // One of the two is left out: the third one behind the second, or the second before the third.
         next = endOfExpression(next);
         frameCount--;
     }
@@ -660,7 +662,8 @@ public final class SendBench {
     }
 
     private void putField(int j, long worth) {
-        int at = fieldPlace(variables[homeOf[current] * VARIABLES + SELF_AT], j);
+        long self = selfOfHome();
+        int at = fieldPlace(self, j);
         if (at == NONE) outcome = KIND;
         else thingFields[at] = worth;
     }
