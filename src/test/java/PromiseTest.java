@@ -118,6 +118,8 @@ public final class PromiseTest {
         T.is("3 kind -1", x.token(-1, 0), SendBench.BAD);
         T.is("3 kind 30", x.token(30, 0), SendBench.BAD);
         T.is("3 kind most", x.token(Integer.MAX_VALUE, 0), SendBench.BAD);
+        T.is("3 BIND least", x.token(28, 0), 1);
+        x.wipe();
         T.is("3 BIND most", x.token(28, 256 * 9 + 16 * 11 + 11), 1);
         T.is("3 BIND class 10", x.token(28, 2560), SendBench.BAD);
         T.is("3 BIND selector 12", x.token(28, 16 * 12), SendBench.BAD);
@@ -382,6 +384,8 @@ public final class PromiseTest {
         Words.method(x, 0, 11, "THEN SAY ARG 0 SAY ARG 1");
         T.is("SUPER of class 0 with 11", x.send(0, 1, 0, 0), SendBench.OK);
         says(x, "not found", 0, NIL);
+        x.send(3, 0, 31, 32);
+        says(x, "not found, no argument", 3, NIL);
         x.send(6, 0, 31, 32);
         says(x, "not found, one argument", 6, 31);
         x.send(10, 0, 31, 32);
@@ -395,7 +399,28 @@ public final class PromiseTest {
         Words.method(x, 6, 11, "IF SAME ARG 0 NUM 11 ARG 1 SUPER 11 NUM 5 NUM 6");
         x.send(3, 0, 0, 0);
         T.is("SUPER 11", x.result(), 411);
+        superWithArguments();
         changes();
+    }
+
+    private static void superWithArguments() {
+        SendBench x = new SendBench();
+        x.cls(0, 0);
+        x.create(0, 4);
+        Words.method(x, 0, 4, "THEN SAY SELF ARG 0");
+        Words.method(x, 0, 8, "THEN SAY SELF SUB ARG 0 ARG 1");
+        Words.method(x, 0, 11, "THEN SAY ARG 0 SAY ARG 1");
+        Words.method(x, 4, 4, "SUPER 4 ADD ARG 0 NUM 1");
+        Words.method(x, 4, 8, "SUPER 8 ADD ARG 0 NUM 1 MUL ARG 1 NUM 10");
+        Words.method(x, 4, 9, "SUPER 9 ADD ARG 0 NUM 1 NUM 3");
+        x.send(4, 0, 5, 0);
+        T.is("SUPER with one argument", x.result(), 6);
+        says(x, "SUPER with one argument", object(0));
+        x.send(8, 0, 5, 7);
+        T.is("SUPER with two arguments", x.result(), -64);
+        says(x, "SUPER with two arguments", object(0));
+        x.send(9, 0, 5, 7);
+        says(x, "SUPER with two arguments, not found", 9, 6);
     }
 
     private static void changes() {
@@ -471,6 +496,10 @@ public final class PromiseTest {
         T.is("a run ended", x.send(3, 0, 0, 0), SendBench.KIND);
         Words.method(x, 4, 2, "CALL GLOBAL 1");
         T.is("RETURN of a HOME whose run was ended", x.send(2, 0, 0, 0), SendBench.DEAD);
+        SendBench y = bench("THEN STORE 1 BLOCK 0 RETURN NUM 1 SEND 1 SELF");
+        T.is("the first run ended", y.send(0, 0, 0, 0), SendBench.STRANGE);
+        Words.method(y, 4, 2, "CALL GLOBAL 1");
+        T.is("RETURN of the HOME of the first run", y.send(2, 0, 0, 0), SendBench.DEAD);
     }
 
     private static void ensures() {
@@ -490,6 +519,10 @@ public final class PromiseTest {
         Words.method(x, 4, 0, "THEN SEND 4 SELF BLOCK 0 RETURN ENSURE NUM 8 SAY NUM 9 SAY NUM 10");
         x.send(0, 0, 0, 0);
         says(x, "those done are not done again", 9, 99);
+        Words.method(x, 4, 0, "ENSURE ADD RETURN NUM 7 SAY NUM 1 SAY NUM 2");
+        x.send(0, 0, 0, 0);
+        says(x, "the second one, from wherever in the first", 2);
+        T.is("the second one, from wherever in the first", x.result(), 7);
         Words.method(x, 4, 0, "ENSURE RETURN NUM 1 ADD NIL NUM 1");
         T.is("KIND in a second one", x.send(0, 0, 0, 0), SendBench.KIND);
         Words.method(x, 4, 0, "ENSURE ADD NIL NUM 1 SAY NUM 1");
@@ -669,6 +702,21 @@ public final class PromiseTest {
         SendBench z = bench("THEN SET 0 NEW 4 STORE 0 GIVE BLOCK 1 BLOCK 0 NIL NEW 4");
         z.send(0, 0, 0, 0);
         T.is("15 by a BLOCK: SELF, TEMP and PARAM", z.reachable(), 4);
+        reusedPlaces();
+    }
+
+    /** What is made later must not have anything of what was there before. */
+    private static void reusedPlaces() {
+        SendBench x = bench("THEN PUT 0 SELF PUT 1 NUM 7");
+        Words.method(x, 4, 1, "THEN SET 0 NEW 4 STORE 0 BLOCK 0 NIL");
+        for (int n = 0; n < 60; n++) {
+            x.create(0, 4);
+            T.is("15 a new OBJECT's FIELD 0", x.field(0, 0), NIL);
+            T.is("15 a new OBJECT's FIELD 1", x.field(0, 1), NIL);
+            T.is("15 a new OBJECT alone", x.reachable(), 1);
+            x.send(n % 2, 0, 0, 0);
+            T.is("15 reachable", x.reachable(), n % 2 == 0 ? 1 : 3);
+        }
     }
 
     private static void saysAndSaid() {
