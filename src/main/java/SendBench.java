@@ -757,7 +757,8 @@ public final class SendBench {
 
     /** Ends what began after the HOME, down to the latest ENSURE whose second one is due, or to the HOME itself. */
     private void goHome(int home, long worth) {
-        for (int frame = frameCount - 1; frame > baseFrame[home]; frame--) {
+        int base = baseFrame[home];
+        for (int frame = frameCount - 1; frame > base; frame--) {
             int at = frameToken[frame];
             if (at == NONE) {
                 endActivation();
