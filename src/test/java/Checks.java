@@ -1,11 +1,19 @@
 /** Counts the answers that are not as due, and ends the test that has them with exit code 1. */
 final class Checks {
     private final String name;
+    private String sentence = "";
     private int wrong = 0;
     private int count = 0;
+    private int sentences = 0;
 
     Checks(String name) {
         this.name = name;
+    }
+
+    /** The answers from here on are due because of this sentence of the document. */
+    void sentence(String text) {
+        sentence = " \"" + text + "\":";
+        sentences++;
     }
 
     void is(String call, long got, long due) {
@@ -20,11 +28,12 @@ final class Checks {
         count++;
         if (got.equals(due)) return;
         wrong++;
-        System.out.println(name + ": " + call + " answered " + got + ", due is " + due);
+        System.out.println(name + ":" + sentence + " " + call + " answered " + got + ", due is " + due);
     }
 
     void end() {
-        System.out.println(name + ": " + count + " answers, " + wrong + " wrong");
+        String of = sentences == 0 ? "" : " for " + sentences + " sentences";
+        System.out.println(name + ": " + count + " answers" + of + ", " + wrong + " wrong");
         if (wrong != 0) System.exit(1);
     }
 }

@@ -3,6 +3,7 @@ public final class PromiseTest {
     private static final long NIL = SendBench.NIL;
     private static final long NOTHING = -SendBench.NIL;
     private static final Checks T = new Checks("promises");
+    private static final Benches B = new Benches(T);
 
     public static void main(String[] args) {
         newObject();
@@ -23,41 +24,6 @@ public final class PromiseTest {
         taken();
         orderAndLimits();
         T.end();
-    }
-
-    private static long object(int number) {
-        return 2 * NIL + number;
-    }
-
-    private static long block(int number) {
-        return 3 * NIL + number;
-    }
-
-    /** A bench whose class 4 has two FIELDS, with an OBJECT of it as GLOBAL 0 and the program as selector 0. */
-    private static SendBench bench(String program) {
-        SendBench x = new SendBench();
-        x.cls(0, 2);
-        x.create(0, 4);
-        Words.method(x, 4, 0, program);
-        return x;
-    }
-
-    private static void gives(String program, long due) {
-        SendBench x = bench(program);
-        T.is("send of " + program, x.send(0, 0, 0, 0), SendBench.OK);
-        T.is("result of " + program, x.result(), due);
-    }
-
-    private static void ends(String program, int due) {
-        SendBench x = bench(program);
-        T.is("send of " + program, x.send(0, 0, 0, 0), due);
-        T.is("result of " + program, x.result(), NOTHING);
-    }
-
-    private static void says(SendBench x, String name, long... due) {
-        T.is(name + " says", x.says(), due.length);
-        for (int k = 0; k < due.length; k++) T.is(name + " said " + k, x.said(k), due[k]);
-        T.is(name + " said no more", x.said(due.length), NOTHING);
     }
 
     private static void newObject() {
@@ -153,12 +119,12 @@ public final class PromiseTest {
         T.is("5 place stays", x.place(), -1);
         T.is("5 the draft stays", x.wipe(), 2);
         T.is("5 no room before shape", x.body(), SendBench.NOROOM);
-        SendBench y = bench("ADD NUM 40 NUM 2");
+        SendBench y = Benches.bench("ADD NUM 40 NUM 2");
         Words.draft(y, "NUM 7 NUM 8 NUM 9");
         T.is("5 a draft leaves the bodies", y.send(0, 0, 0, 0), 0);
         T.is("5 a draft leaves the bodies", y.result(), 42);
         String longest = "ADD NUM 1 ".repeat(15) + "CLASS NIL";
-        gives(longest, 17);
+        B.gives(longest, 17);
     }
 
     private static void wrongAt(SendBench x, String program, int due) {
@@ -260,7 +226,7 @@ public final class PromiseTest {
         T.is("9 still NIL", x.read(0), NIL);
         T.is("9 of class 0", x.create(0, 0), 0);
         T.is("9 of class 4", x.create(3, 4), 1);
-        T.is("9 read", x.read(3), object(1));
+        T.is("9 read", x.read(3), Benches.object(1));
         T.is("9 numbers are for good", x.create(3, 4), 2);
         T.is("9 made", x.taken(2), 3);
         T.is("9 reachable", x.reachable(), 2);
@@ -270,7 +236,7 @@ public final class PromiseTest {
         T.is("9 nearly full", x.reachable(), 23);
         T.is("9 the last", x.create(2, 0), 24);
         T.is("9 full", x.create(2, 0), SendBench.NOROOM);
-        T.is("9 stays", x.read(2), object(24));
+        T.is("9 stays", x.read(2), Benches.object(24));
         T.is("9 bad before no room", x.create(2, 1), SendBench.BAD);
         T.is("9 not made", x.taken(2), 25);
         x.global(2, 0);
@@ -278,7 +244,7 @@ public final class PromiseTest {
     }
 
     private static void send() {
-        SendBench x = bench("NUM 7");
+        SendBench x = Benches.bench("NUM 7");
         T.is("10 run", x.send(0, 0, 0, 0), 0);
         for (int s : new int[] {-1, 12}) T.is("10 selector " + s, x.send(s, 0, 0, 0), SendBench.BAD);
         for (int k : new int[] {-1, 4}) T.is("10 global " + k, x.send(0, k, 0, 0), SendBench.BAD);
@@ -302,57 +268,57 @@ public final class PromiseTest {
     }
 
     private static void values() {
-        gives("NUM -2147483648", Integer.MIN_VALUE);
-        gives("NIL", NIL);
-        gives("SELF", object(0));
-        gives("NEW 0", object(1));
-        gives("BLOCK 0 NIL", block(1));
-        gives("ADD NUM 2147483647 NUM 1", Integer.MIN_VALUE);
-        gives("SUB NUM -2147483648 NUM 1", Integer.MAX_VALUE);
-        gives("MUL NUM 65536 NUM 65536", 0);
-        gives("MUL NUM 2147483647 NUM 3", 2147483645);
-        gives("LESS NUM -1 NUM 0", 1);
-        gives("LESS NUM 0 NUM 0", 0);
-        gives("LESS NUM -2147483648 NUM 2147483647", 1);
+        B.gives("NUM -2147483648", Integer.MIN_VALUE);
+        B.gives("NIL", NIL);
+        B.gives("SELF", Benches.object(0));
+        B.gives("NEW 0", Benches.object(1));
+        B.gives("BLOCK 0 NIL", Benches.block(1));
+        B.gives("ADD NUM 2147483647 NUM 1", Integer.MIN_VALUE);
+        B.gives("SUB NUM -2147483648 NUM 1", Integer.MAX_VALUE);
+        B.gives("MUL NUM 65536 NUM 65536", 0);
+        B.gives("MUL NUM 2147483647 NUM 3", 2147483645);
+        B.gives("LESS NUM -1 NUM 0", 1);
+        B.gives("LESS NUM 0 NUM 0", 0);
+        B.gives("LESS NUM -2147483648 NUM 2147483647", 1);
         for (String kind : new String[] {"ADD", "SUB", "MUL", "LESS"}) {
-            ends(kind + " NIL NUM 1", SendBench.KIND);
-            ends(kind + " NUM 1 SELF", SendBench.KIND);
-            ends(kind + " BLOCK 0 NIL NUM 1", SendBench.KIND);
+            B.ends(kind + " NIL NUM 1", SendBench.KIND);
+            B.ends(kind + " NUM 1 SELF", SendBench.KIND);
+            B.ends(kind + " BLOCK 0 NIL NUM 1", SendBench.KIND);
         }
-        gives("SAME NUM 5 ADD NUM 2 NUM 3", 1);
-        gives("SAME NIL NIL", 1);
-        gives("SAME NIL NUM 0", 0);
-        gives("SAME SELF GLOBAL 0", 1);
-        gives("SAME NEW 4 NEW 4", 0);
-        gives("SAME BLOCK 0 NIL BLOCK 0 NIL", 0);
-        gives("THEN SET 0 BLOCK 0 NIL SAME TEMP 0 TEMP 0", 1);
-        gives("IF NIL NUM 1 NUM 2", 2);
-        gives("IF NUM 0 NUM 1 NUM 2", 2);
-        gives("IF NUM -1 NUM 1 NUM 2", 1);
-        gives("IF SELF NUM 1 NUM 2", 1);
-        gives("IF BLOCK 0 NIL NUM 1 NUM 2", 1);
-        gives("ADD IF NUM 1 IF NUM 0 NUM 1 NUM 2 NUM 3 IF NUM 0 NUM 10 NUM 20", 22);
-        gives("CLASS NUM 1", 1);
-        gives("CLASS NIL", 2);
-        gives("CLASS BLOCK 1 NIL", 3);
-        gives("CLASS SELF", 4);
-        gives("CLASS NEW 0", 0);
-        gives("SAY NUM 3", 3);
-        gives("WHILE NIL NUM 1", NIL);
+        B.gives("SAME NUM 5 ADD NUM 2 NUM 3", 1);
+        B.gives("SAME NIL NIL", 1);
+        B.gives("SAME NIL NUM 0", 0);
+        B.gives("SAME SELF GLOBAL 0", 1);
+        B.gives("SAME NEW 4 NEW 4", 0);
+        B.gives("SAME BLOCK 0 NIL BLOCK 0 NIL", 0);
+        B.gives("THEN SET 0 BLOCK 0 NIL SAME TEMP 0 TEMP 0", 1);
+        B.gives("IF NIL NUM 1 NUM 2", 2);
+        B.gives("IF NUM 0 NUM 1 NUM 2", 2);
+        B.gives("IF NUM -1 NUM 1 NUM 2", 1);
+        B.gives("IF SELF NUM 1 NUM 2", 1);
+        B.gives("IF BLOCK 0 NIL NUM 1 NUM 2", 1);
+        B.gives("ADD IF NUM 1 IF NUM 0 NUM 1 NUM 2 NUM 3 IF NUM 0 NUM 10 NUM 20", 22);
+        B.gives("CLASS NUM 1", 1);
+        B.gives("CLASS NIL", 2);
+        B.gives("CLASS BLOCK 1 NIL", 3);
+        B.gives("CLASS SELF", 4);
+        B.gives("CLASS NEW 0", 0);
+        B.gives("SAY NUM 3", 3);
+        B.gives("WHILE NIL NUM 1", NIL);
     }
 
     private static void variables() {
-        gives("TEMP 2", NIL);
-        gives("ADD SET 0 NUM 3 ADD SET 0 NUM 4 TEMP 0", 11);
-        gives("FIELD 1", NIL);
-        gives("THEN PUT 1 NUM 9 FIELD 1", 9);
-        gives("PUT 0 NUM 6", 6);
-        ends("FIELD 2", SendBench.KIND);
-        ends("PUT 2 NUM 1", SendBench.KIND);
-        gives("THEN STORE 3 NUM 4 ADD GLOBAL 3 STORE 3 NUM 5", 9);
-        SendBench x = bench("PUT 2 SAY NUM 1");
+        B.gives("TEMP 2", NIL);
+        B.gives("ADD SET 0 NUM 3 ADD SET 0 NUM 4 TEMP 0", 11);
+        B.gives("FIELD 1", NIL);
+        B.gives("THEN PUT 1 NUM 9 FIELD 1", 9);
+        B.gives("PUT 0 NUM 6", 6);
+        B.ends("FIELD 2", SendBench.KIND);
+        B.ends("PUT 2 NUM 1", SendBench.KIND);
+        B.gives("THEN STORE 3 NUM 4 ADD GLOBAL 3 STORE 3 NUM 5", 9);
+        SendBench x = Benches.bench("PUT 2 SAY NUM 1");
         T.is("PUT without such a field", x.send(0, 0, 0, 0), SendBench.KIND);
-        says(x, "PUT works out first", 1);
+        B.says(x, "PUT works out first", 1);
         Words.method(x, 0, 4, "THEN SET 1 NUM 8 FIELD 0");
         x.global(1, 4);
         T.is("FIELD of an INT", x.send(4, 1, 0, 0), SendBench.KIND);
@@ -383,13 +349,13 @@ public final class PromiseTest {
         T.is("SUPER of class 0", x.send(0, 1, 0, 0), SendBench.STRANGE);
         Words.method(x, 0, 11, "THEN SAY ARG 0 SAY ARG 1");
         T.is("SUPER of class 0 with 11", x.send(0, 1, 0, 0), SendBench.OK);
-        says(x, "not found", 0, NIL);
+        B.says(x, "not found", 0, NIL);
         x.send(3, 0, 31, 32);
-        says(x, "not found, no argument", 3, NIL);
+        B.says(x, "not found, no argument", 3, NIL);
         x.send(6, 0, 31, 32);
-        says(x, "not found, one argument", 6, 31);
+        B.says(x, "not found, one argument", 6, 31);
         x.send(10, 0, 31, 32);
-        says(x, "not found, two arguments", 10, 31);
+        B.says(x, "not found, two arguments", 10, 31);
         Words.method(x, 4, 11, "NUM 411");
         x.send(3, 0, 0, 0);
         T.is("11 is found for the class itself", x.result(), 411);
@@ -415,12 +381,12 @@ public final class PromiseTest {
         Words.method(x, 4, 9, "SUPER 9 ADD ARG 0 NUM 1 NUM 3");
         x.send(4, 0, 5, 0);
         T.is("SUPER with one argument", x.result(), 6);
-        says(x, "SUPER with one argument", object(0));
+        B.says(x, "SUPER with one argument", Benches.object(0));
         x.send(8, 0, 5, 7);
         T.is("SUPER with two arguments", x.result(), -64);
-        says(x, "SUPER with two arguments", object(0));
+        B.says(x, "SUPER with two arguments", Benches.object(0));
         x.send(9, 0, 5, 7);
-        says(x, "SUPER with two arguments, not found", 9, 6);
+        B.says(x, "SUPER with two arguments, not found", 9, 6);
     }
 
     private static void changes() {
@@ -445,15 +411,15 @@ public final class PromiseTest {
     }
 
     private static void blocks() {
-        gives("CALL BLOCK 0 NUM 4", 4);
-        gives("GIVE BLOCK 1 PARAM 0 NUM 5", 5);
-        gives("GIVE GIVE BLOCK 1 BLOCK 1 SUB PARAM 0 PARAM 1 NUM 3 NUM 10", 7);
-        gives("GIVE CALL GIVE BLOCK 1 BLOCK 0 BLOCK 1 SUB PARAM 0 PARAM 2 NUM 3 NUM 10", 7);
-        ends("CALL NIL", SendBench.KIND);
-        ends("CALL SELF", SendBench.KIND);
-        ends("CALL BLOCK 1 NIL", SendBench.KIND);
-        ends("GIVE BLOCK 0 NIL NIL", SendBench.KIND);
-        ends("GIVE NUM 1 NIL", SendBench.KIND);
+        B.gives("CALL BLOCK 0 NUM 4", 4);
+        B.gives("GIVE BLOCK 1 PARAM 0 NUM 5", 5);
+        B.gives("GIVE GIVE BLOCK 1 BLOCK 1 SUB PARAM 0 PARAM 1 NUM 3 NUM 10", 7);
+        B.gives("GIVE CALL GIVE BLOCK 1 BLOCK 0 BLOCK 1 SUB PARAM 0 PARAM 2 NUM 3 NUM 10", 7);
+        B.ends("CALL NIL", SendBench.KIND);
+        B.ends("CALL SELF", SendBench.KIND);
+        B.ends("CALL BLOCK 1 NIL", SendBench.KIND);
+        B.ends("GIVE BLOCK 0 NIL NIL", SendBench.KIND);
+        B.ends("GIVE NUM 1 NIL", SendBench.KIND);
         SendBench x = new SendBench();
         x.cls(0, 0);
         x.create(0, 4);
@@ -461,16 +427,16 @@ public final class PromiseTest {
         Words.method(x, 4, 4, "THEN SET 0 ARG 0 STORE 2 BLOCK 1 SET 0 ADD TEMP 0 PARAM 0");
         Words.method(x, 4, 5, "GIVE GLOBAL 2 ARG 0");
         x.send(4, 0, 10, 0);
-        T.is("block", x.result(), block(2));
+        T.is("block", x.result(), Benches.block(2));
         x.send(5, 1, 1, 0);
         x.send(5, 1, 2, 0);
         T.is("a BLOCK goes on with its HOME's TEMPS", x.result(), 13);
         Words.method(x, 4, 6, "THEN STORE 2 BLOCK 0 THEN SAY SELF SAY ARG 0 CALL GLOBAL 2");
         Words.method(x, 4, 0, "CALL GLOBAL 2");
         x.send(6, 1, 77, 0);
-        says(x, "SELF and ARG of the HOME", object(1), 77);
+        B.says(x, "SELF and ARG of the HOME", Benches.object(1), 77);
         x.send(0, 0, 0, 0);
-        says(x, "SELF and ARG of the HOME, ended", object(1), 77);
+        B.says(x, "SELF and ARG of the HOME, ended", Benches.object(1), 77);
         Words.method(x, 4, 1, "THEN SAY SEND 7 SELF NUM 1 THEN SAY SEND 7 SELF NUM 2 CALL GLOBAL 2");
         Words.method(x, 4, 7, "STORE 2 BLOCK 0 ARG 0");
         x.send(1, 0, 0, 0);
@@ -478,61 +444,61 @@ public final class PromiseTest {
     }
 
     private static void returns() {
-        gives("ADD NUM 1 RETURN NUM 5", 5);
-        gives("ADD NUM 1 CALL BLOCK 0 ADD NUM 2 RETURN NUM 5", 5);
-        gives("CALL BLOCK 0 CALL BLOCK 0 CALL BLOCK 0 RETURN NUM 6", 6);
-        gives("RETURN RETURN NUM 6", 6);
-        SendBench x = bench("ADD NUM 1 SEND 4 SELF BLOCK 0 RETURN NUM 9");
+        B.gives("ADD NUM 1 RETURN NUM 5", 5);
+        B.gives("ADD NUM 1 CALL BLOCK 0 ADD NUM 2 RETURN NUM 5", 5);
+        B.gives("CALL BLOCK 0 CALL BLOCK 0 CALL BLOCK 0 RETURN NUM 6", 6);
+        B.gives("RETURN RETURN NUM 6", 6);
+        SendBench x = Benches.bench("ADD NUM 1 SEND 4 SELF BLOCK 0 RETURN NUM 9");
         Words.method(x, 4, 4, "THEN CALL ARG 0 SAY NUM 1");
         x.send(0, 0, 0, 0);
         T.is("RETURN through another", x.result(), 9);
-        says(x, "RETURN through another");
+        B.says(x, "RETURN through another");
         Words.method(x, 4, 1, "BLOCK 0 RETURN SAY NUM 9");
         Words.method(x, 4, 2, "CALL SEND 1 SELF");
         T.is("RETURN of an ended HOME", x.send(2, 0, 0, 0), SendBench.DEAD);
-        says(x, "RETURN of an ended HOME works out first", 9);
+        B.says(x, "RETURN of an ended HOME works out first", 9);
         T.is("DEAD has no result", x.result(), NOTHING);
         Words.method(x, 4, 3, "ADD THEN STORE 1 BLOCK 0 RETURN NUM 1 NUM 1 NIL");
         T.is("a run ended", x.send(3, 0, 0, 0), SendBench.KIND);
         Words.method(x, 4, 2, "CALL GLOBAL 1");
         T.is("RETURN of a HOME whose run was ended", x.send(2, 0, 0, 0), SendBench.DEAD);
-        SendBench y = bench("THEN STORE 1 BLOCK 0 RETURN NUM 1 SEND 1 SELF");
+        SendBench y = Benches.bench("THEN STORE 1 BLOCK 0 RETURN NUM 1 SEND 1 SELF");
         T.is("the first run ended", y.send(0, 0, 0, 0), SendBench.STRANGE);
         Words.method(y, 4, 2, "CALL GLOBAL 1");
         T.is("RETURN of the HOME of the first run", y.send(2, 0, 0, 0), SendBench.DEAD);
     }
 
     private static void ensures() {
-        gives("ENSURE NUM 3 NUM 4", 3);
-        SendBench x = bench("THEN ENSURE ENSURE SAY NUM 1 SAY NUM 2 SAY NUM 3 SAY NUM 4");
+        B.gives("ENSURE NUM 3 NUM 4", 3);
+        SendBench x = Benches.bench("THEN ENSURE ENSURE SAY NUM 1 SAY NUM 2 SAY NUM 3 SAY NUM 4");
         x.send(0, 0, 0, 0);
-        says(x, "ENSURE", 1, 2, 3, 4);
+        B.says(x, "ENSURE", 1, 2, 3, 4);
         Words.method(x, 4, 0, "THEN ENSURE ENSURE RETURN SAY NUM 1 SAY NUM 2 SAY NUM 3 SAY NUM 4");
         x.send(0, 0, 0, 0);
-        says(x, "ENSURE and RETURN", 1, 2, 3);
+        B.says(x, "ENSURE and RETURN", 1, 2, 3);
         T.is("ENSURE and RETURN", x.result(), 1);
         Words.method(x, 4, 4, "ENSURE CALL ARG 0 SAY SUB NUM 100 NUM 1");
         Words.method(x, 4, 0, "ENSURE SEND 4 SELF BLOCK 0 ENSURE RETURN NUM 1 SAY NUM 2 SAY NUM 3");
         x.send(0, 0, 0, 0);
-        says(x, "the latest first", 2, 99, 3);
+        B.says(x, "the latest first", 2, 99, 3);
         T.is("the latest first", x.result(), 1);
         Words.method(x, 4, 0, "THEN SEND 4 SELF BLOCK 0 RETURN ENSURE NUM 8 SAY NUM 9 SAY NUM 10");
         x.send(0, 0, 0, 0);
-        says(x, "those done are not done again", 9, 99);
+        B.says(x, "those done are not done again", 9, 99);
         Words.method(x, 4, 0, "ENSURE ADD RETURN NUM 7 SAY NUM 1 SAY NUM 2");
         x.send(0, 0, 0, 0);
-        says(x, "the second one, from wherever in the first", 2);
+        B.says(x, "the second one, from wherever in the first", 2);
         T.is("the second one, from wherever in the first", x.result(), 7);
         Words.method(x, 4, 0, "ENSURE RETURN NUM 1 ADD NIL NUM 1");
         T.is("KIND in a second one", x.send(0, 0, 0, 0), SendBench.KIND);
         Words.method(x, 4, 0, "ENSURE ADD NIL NUM 1 SAY NUM 1");
         T.is("KIND in a first one", x.send(0, 0, 0, 0), SendBench.KIND);
-        says(x, "no ENSURE when a run is ended");
+        B.says(x, "no ENSURE when a run is ended");
         otherReturns();
     }
 
     private static void otherReturns() {
-        SendBench x = bench("THEN ENSURE RETURN NUM 1 RETURN NUM 8 SAY NUM 4");
+        SendBench x = Benches.bench("THEN ENSURE RETURN NUM 1 RETURN NUM 8 SAY NUM 4");
         x.send(0, 0, 0, 0);
         T.is("another RETURN counts", x.result(), 8);
         Words.method(x, 4, 4, "ADD NUM 100 ENSURE CALL ARG 0 RETURN NUM 5");
@@ -542,20 +508,20 @@ public final class PromiseTest {
         Words.method(x, 4, 1, "RETURN SAY NUM 6");
         Words.method(x, 4, 0, "THEN ENSURE RETURN NUM 1 SEND 1 SELF SAY NUM 7");
         x.send(0, 0, 0, 0);
-        says(x, "a RETURN whose HOME began in the second one", 6);
+        B.says(x, "a RETURN whose HOME began in the second one", 6);
         T.is("a RETURN whose HOME began in the second one", x.result(), 1);
         Words.method(x, 4, 2, "ENSURE RETURN NUM 2 RETURN SAY NUM 3");
         Words.method(x, 4, 0, "THEN ENSURE RETURN NUM 1 SAY SEND 2 SELF SAY NUM 7");
         x.send(0, 0, 0, 0);
-        says(x, "within the second one, another counts there", 3, 3);
+        B.says(x, "within the second one, another counts there", 3, 3);
         T.is("within the second one, another counts there", x.result(), 1);
         Words.method(x, 4, 0, "ENSURE ENSURE RETURN NUM 1 RETURN NUM 2 SAY NUM 3");
         x.send(0, 0, 0, 0);
-        says(x, "the outer ENSURE once", 3);
+        B.says(x, "the outer ENSURE once", 3);
         T.is("the outer ENSURE", x.result(), 2);
         Words.method(x, 4, 0, "ENSURE RETURN NUM 1 ENSURE RETURN NUM 2 SAY NUM 3");
         x.send(0, 0, 0, 0);
-        says(x, "an ENSURE in the second one", 3);
+        B.says(x, "an ENSURE in the second one", 3);
         T.is("an ENSURE in the second one", x.result(), 2);
         Words.method(x, 4, 3, "THEN STORE 1 BLOCK 0 RETURN NUM 3 CALL GLOBAL 2");
         Words.method(x, 4, 0, "ENSURE THEN STORE 2 BLOCK 0 RETURN NUM 1 SEND 3 SELF CALL GLOBAL 1");
@@ -563,7 +529,7 @@ public final class PromiseTest {
     }
 
     private static void limitsOfARun() {
-        SendBench x = bench("WHILE NUM 1 NUM 2");
+        SendBench x = Benches.bench("WHILE NUM 1 NUM 2");
         T.is("WHILE without end", x.send(0, 0, 0, 0), SendBench.LONG);
         T.is("STEPS", x.taken(0), 200);
         Words.method(x, 4, 4, "THEN SET 0 ARG 0 WHILE TEMP 0 SET 0 SUB TEMP 0 NUM 1");
@@ -574,7 +540,7 @@ public final class PromiseTest {
         Words.method(x, 4, 5, "THEN SET 0 ARG 0 THEN WHILE TEMP 0 SET 0 SUB TEMP 0 NUM 1 CALL BLOCK 0 SAY NUM 1");
         T.is("197 times and a CALL", x.send(5, 0, 197, 0), SendBench.OK);
         T.is("198 times and a CALL", x.send(5, 0, 198, 0), SendBench.LONG);
-        says(x, "198 times and a CALL");
+        B.says(x, "198 times and a CALL");
         Words.method(x, 4, 6, "IF ARG 0 SEND 6 SELF SUB ARG 0 NUM 1 NUM 33");
         T.is("12 at work", x.send(6, 0, 11, 0), SendBench.OK);
         T.is("12 at work", x.taken(1), 12);
@@ -583,7 +549,7 @@ public final class PromiseTest {
         T.is("13 at work, at most", x.taken(1), 12);
         Words.method(x, 4, 1, "ENSURE SEND 1 SELF SAY NUM 1");
         T.is("no ENSURE", x.send(1, 0, 0, 0), SendBench.DEEP);
-        says(x, "no ENSURE");
+        B.says(x, "no ENSURE");
         Words.method(x, 4, 7, "THEN SET 0 ARG 0 THEN WHILE TEMP 0 SET 0 SUB TEMP 0 NUM 1 SEND 6 SELF NUM 20");
         T.is("LONG before DEEP", x.send(7, 0, 187, 0), SendBench.LONG);
         T.is("LONG before DEEP", x.taken(1), 12);
@@ -592,27 +558,27 @@ public final class PromiseTest {
     }
 
     private static void result() {
-        SendBench x = bench("NEW 4");
+        SendBench x = Benches.bench("NEW 4");
         x.send(0, 0, 0, 0);
-        T.is("11 not reachable", x.result(), object(1));
+        T.is("11 not reachable", x.result(), Benches.object(1));
         T.is("11 not reachable", x.reachable(), 1);
         x.create(1, 4);
         x.create(2, 4);
-        T.is("11 stays", x.result(), object(1));
+        T.is("11 stays", x.result(), Benches.object(1));
         x.send(1, 0, 0, 0);
         T.is("11 after STRANGE", x.result(), NOTHING);
     }
 
     private static void readAndField() {
-        SendBench x = bench("THEN PUT 0 NUM -3 THEN PUT 1 SELF STORE 1 BLOCK 0 NIL");
+        SendBench x = Benches.bench("THEN PUT 0 NUM -3 THEN PUT 1 SELF STORE 1 BLOCK 0 NIL");
         x.send(0, 0, 0, 0);
-        T.is("12 object", x.read(0), object(0));
-        T.is("12 block", x.read(1), block(1));
+        T.is("12 object", x.read(0), Benches.object(0));
+        T.is("12 block", x.read(1), Benches.block(1));
         T.is("12 NIL", x.read(2), NIL);
         T.is("12 below", x.read(-1), NOTHING);
         T.is("12 above", x.read(4), NOTHING);
         T.is("13 field 0", x.field(0, 0), -3);
-        T.is("13 field 1", x.field(0, 1), object(0));
+        T.is("13 field 1", x.field(0, 1), Benches.object(0));
         T.is("13 field 2", x.field(0, 2), NOTHING);
         T.is("13 field -1", x.field(0, -1), NOTHING);
         T.is("13 of a block", x.field(1, 0), NOTHING);
@@ -642,21 +608,10 @@ public final class PromiseTest {
         T.is("14 selector 12", x.finds(0, 12), -1);
     }
 
-    /** 24 can be REACHABLE, so a program says how many are by how many more it can make and keep. */
-    private static SendBench filled(int reachable) {
-        SendBench x = new SendBench();
-        x.cls(0, 2);
-        x.create(0, 4);
-        Words.method(x, 4, 3, "THEN SET 0 GLOBAL 3 STORE 3 BLOCK 0 TEMP 0");
-        for (int n = 1; n < reachable; n++) x.send(3, 0, 0, 0);
-        T.is("15 filled", x.reachable(), reachable);
-        return x;
-    }
-
     /** With so many REACHABLE before, the program ends well; with one more, it is FULL. */
     private static void roomFor(int before, String program, String other) {
         for (int more = 0; more < 2; more++) {
-            SendBench x = filled(before + more);
+            SendBench x = B.filled(before + more);
             Words.method(x, 0, 4, other);
             Words.method(x, 4, 0, program);
             T.is("15 " + program + " with " + (before + more), x.send(0, 0, 0, 0), more == 0 ? SendBench.OK : SendBench.FULL);
@@ -689,17 +644,17 @@ public final class PromiseTest {
         roomFor(23, "ENSURE ENSURE RETURN NEW 4 RETURN NIL NEW 4", "NIL");
         roomFor(22, "ENSURE ENSURE RETURN NEW 4 NIL NEW 4", "NIL");
         roomFor(20, "GIVE BLOCK 1 SAME PARAM 0 NEW 4 SEND 4 SELF NEW 4", "SAME NEW 4 NEW 4");
-        SendBench x = filled(24);
+        SendBench x = B.filled(24);
         x.global(3, 0);
         T.is("15 what nothing leads to", x.reachable(), 1);
         x.global(0, 0);
         T.is("15 nothing", x.reachable(), 0);
-        SendBench y = bench("THEN PUT 0 SELF THEN PUT 1 NEW 4 STORE 1 FIELD 1");
+        SendBench y = Benches.bench("THEN PUT 0 SELF THEN PUT 1 NEW 4 STORE 1 FIELD 1");
         y.send(0, 0, 0, 0);
         T.is("15 each once", y.reachable(), 2);
         y.global(0, 0);
         T.is("15 a ring that nothing leads to", y.reachable(), 1);
-        SendBench z = bench("THEN SET 0 NEW 4 STORE 0 GIVE BLOCK 1 BLOCK 0 NIL NEW 4");
+        SendBench z = Benches.bench("THEN SET 0 NEW 4 STORE 0 GIVE BLOCK 1 BLOCK 0 NIL NEW 4");
         z.send(0, 0, 0, 0);
         T.is("15 by a BLOCK: SELF, TEMP and PARAM", z.reachable(), 4);
         reusedPlaces();
@@ -707,7 +662,7 @@ public final class PromiseTest {
 
     /** What is made later must not have anything of what was there before. */
     private static void reusedPlaces() {
-        SendBench x = bench("THEN PUT 0 SELF PUT 1 NUM 7");
+        SendBench x = Benches.bench("THEN PUT 0 SELF PUT 1 NUM 7");
         Words.method(x, 4, 1, "THEN SET 0 NEW 4 STORE 0 BLOCK 0 NIL");
         for (int n = 0; n < 60; n++) {
             x.create(0, 4);
@@ -720,9 +675,9 @@ public final class PromiseTest {
     }
 
     private static void saysAndSaid() {
-        SendBench x = bench("THEN SAY NIL THEN SAY SELF THEN SAY BLOCK 0 NIL SAY NUM -5");
+        SendBench x = Benches.bench("THEN SAY NIL THEN SAY SELF THEN SAY BLOCK 0 NIL SAY NUM -5");
         x.send(0, 0, 0, 0);
-        says(x, "17", NIL, object(0), block(1), -5);
+        B.says(x, "17", NIL, Benches.object(0), Benches.block(1), -5);
         T.is("17 below", x.said(-1), NOTHING);
         Words.method(x, 4, 4, "THEN SET 0 ARG 0 WHILE TEMP 0 THEN SAY TEMP 0 SET 0 SUB TEMP 0 NUM 1");
         x.send(4, 0, 30, 0);
@@ -739,11 +694,11 @@ public final class PromiseTest {
         T.is("17 after STRANGE", x.said(0), NOTHING);
         Words.method(x, 4, 1, "ADD SAY NUM 1 SAY NIL");
         x.send(1, 0, 0, 0);
-        says(x, "17 after KIND", 1, NIL);
+        B.says(x, "17 after KIND", 1, NIL);
     }
 
     private static void taken() {
-        SendBench x = bench("ADD CALL BLOCK 0 NUM 1 CALL BLOCK 0 CALL BLOCK 0 NUM 2");
+        SendBench x = Benches.bench("ADD CALL BLOCK 0 NUM 1 CALL BLOCK 0 CALL BLOCK 0 NUM 2");
         T.is("18 made before", x.taken(2), 1);
         x.send(0, 0, 0, 0);
         T.is("18 steps", x.taken(0), 4);
@@ -762,11 +717,11 @@ public final class PromiseTest {
 
     private static void orderAndLimits() {
         for (String kind : new String[] {"ADD", "SUB", "MUL", "LESS", "GIVE"}) {
-            SendBench x = bench(kind + " NIL SAY NUM 1");
+            SendBench x = Benches.bench(kind + " NIL SAY NUM 1");
             T.is("19 " + kind, x.send(0, 0, 0, 0), SendBench.KIND);
-            says(x, "19 " + kind, 1);
+            B.says(x, "19 " + kind, 1);
         }
-        SendBench x = bench("THEN SET 0 NUM 198 THEN WHILE TEMP 0 SET 0 SUB TEMP 0 NUM 1 CALL NIL");
+        SendBench x = Benches.bench("THEN SET 0 NUM 198 THEN WHILE TEMP 0 SET 0 SUB TEMP 0 NUM 1 CALL NIL");
         T.is("19 KIND before LONG", x.send(0, 0, 0, 0), SendBench.KIND);
         T.is("19 KIND before LONG", x.taken(0), 200);
         Words.method(x, 4, 4, "IF ARG 0 SEND 4 SELF SUB ARG 0 NUM 1 CALL NIL");
