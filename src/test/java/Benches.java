@@ -114,6 +114,10 @@ final class Benches {
         all.add((long) x.send(0, 0, 3, 4));
         all.add(x.result());
         all.add((long) x.taken(0));
+        for (int c = 4; c < 10; c++) {
+            all.add((long) x.create(1, c));
+            for (int j = 0; j < 4; j++) all.add(x.field(1, j));
+        }
         all.add((long) x.cls(4, 2));
         all.add((long) x.create(2, 4));
         all.add(x.read(2));

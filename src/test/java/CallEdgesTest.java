@@ -310,11 +310,16 @@ public final class CallEdgesTest {
             for (int s = 0; s < 12; s++) {
                 SendBench x = new SendBench();
                 for (String body : bodies) Words.body(x, body);
+                Words.body(x, "SAY SAY SAY NIL");
                 x.bind(0, s, 0);
                 boolean fits = needed[b] <= s / 4;
-                T.is("bind of " + bodies[b] + " for " + s, x.bind(4, s, b), false);
                 T.is("bind of " + bodies[b] + " for " + s, x.bind(2, s, b), fits);
                 T.is("finds", x.finds(2, s), fits ? 2 : 0);
+                x.bind(2, s, 7);
+                T.is("bind of " + bodies[b] + " for " + s + " again", x.bind(2, s, b), fits);
+                T.is("finds again", x.finds(2, s), 2);
+                x.send(s, 0, 0, 0);
+                T.is("the one before stays", x.says(), fits ? 0 : 3);
             }
         }
         for (String before : new String[] {"NIL ARG 1", "THEN ARG 0"}) {

@@ -118,7 +118,7 @@ public final class ShapeEdgesTest {
         for (int more = 0; more < 2; more++) {
             SendBench x = new SendBench();
             Words.draft(x, most);
-            if (more == 1) T.is("token with 32", x.token(1, 0), SendBench.NOROOM);
+            if (more == 1) T.is("token with 32", x.token(0, 3), SendBench.NOROOM);
             T.is("body of 32", x.body(), 0);
             T.is("place", x.place(), -1);
             x.bind(2, 0, 0);
