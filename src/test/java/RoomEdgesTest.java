@@ -279,6 +279,12 @@ public final class RoomEdgesTest {
         room(22, "THEN SET 0 BLOCK 0 NEW 4 THEN SEND 8 SELF NIL NEW 4 CALL TEMP 0", "8", "NIL");
         room(22, "THEN SET 0 BLOCK 0 NEW 4 THEN SEND 1 SELF CALL TEMP 0", "1", "SET 2 NEW 4");
         room(22, "THEN SET 0 BLOCK 1 NIL THEN GIVE TEMP 0 NEW 4 SEND 1 SELF", "1", "NEW 4");
+        for (String ended : new String[] {"SEND 1 NEW 4", "SEND 4 SELF NEW 4", "SEND 8 SELF NIL NEW 4", "GIVE GLOBAL 1 NEW 4"}) {
+            SendBench x = Benches.bench("THEN STORE 1 BLOCK 1 NIL " + ended);
+            for (int s = 1; s < 9; s++) x.bind(4, s, Words.body(x, "NIL"));
+            T.is("send of " + ended, x.send(0, 0, 0, 0), SendBench.OK);
+            T.is("a BLOCK keeps the one in which it was made, not " + ended, x.reachable(), 2);
+        }
     }
 
     private static void afterTheRun() {
