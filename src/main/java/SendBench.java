@@ -20,8 +20,9 @@ public final class SendBench {
     // 12 at work are each within at most three others, and 24 BLOCKS lead to at most three each: 120 can be kept at once.
     private static final int ACTIVATIONS = 128, VARIABLES = 7, ACTIVATION_VARIABLES = ACTIVATIONS * VARIABLES;
     private static final int SELF_AT = 0, ARGS_AT = 1, TEMPS_AT = 3, PARAM_AT = 6;
-    // In each ACTIVATION at work fewer operators are under way than it has TOKENS, and one of them becomes the next base.
-    private static final int FRAMES = AT_WORK * TOKENS, OPERANDS = 3, FRAME_OPERANDS = FRAMES * OPERANDS;
+    // In each ACTIVATION at work all TOKENS can be operators under way (the last one a SUPER without operands), the latest of
+    // which becomes the base of the next one; the base of the first one, which no operator began, is one more.
+    private static final int FRAMES = 1 + AT_WORK * TOKENS, OPERANDS = 3, FRAME_OPERANDS = FRAMES * OPERANDS;
     private static final int NODES = THINGS + ACTIVATIONS;
 
     private static final int RUNNING = 100, NEVER_RUN = 101;

@@ -4,9 +4,12 @@ public final class LimitsTest {
 
     public static void main(String[] args) {
         manyOperatorsUnderWay();
+        allTokensUnderWay();
+        allTokensUnderWayOnce();
         manyActivationsKept();
         manyThingsMade();
         strangeArguments();
+        manyCalls();
         T.end();
     }
 
@@ -25,6 +28,62 @@ public final class LimitsTest {
         T.is("RETURN through many", x.taken(1), 12);
         T.is("RETURN through many says", x.says(), 9);
         for (int k = 0; k < 9; k++) T.is("RETURN through many said", x.said(k), k + 1);
+    }
+
+    /** A SUPER without operands is an operator as well: all 32 tokens of all 12 can be under way when another would begin. */
+    private static void allTokensUnderWay() {
+        String[] operators = {"SAY ", "CLASS ", "SET 2 ", "PUT 0 ", "STORE 3 ", "CALL ", "RETURN ", "SEND 1 "};
+        for (String operator : operators) {
+            for (int s = 0; s < 4; s++) {
+                String program = operator.repeat(31) + "SUPER " + s;
+                for (int first : new int[] {0, 3, 11}) {
+                    underWay(program, 0, first);
+                    underWay(program, 2, first);
+                }
+            }
+        }
+        underWay("SAY CLASS SET 0 STORE 3 PUT 1 CALL SEND 2 RETURN ".repeat(3) + "SAY ".repeat(7) + "SUPER 3", 2, 0);
+    }
+
+    /** Class c has the program for 11, which each SUPER comes to, and NIL has it for 3 as well; the run begins with s. */
+    private static void underWay(String program, int c, int s) {
+        SendBench x = new SendBench();
+        Words.method(x, c, 11, program);
+        x.bind(2, 3, 0);
+        String name = program + " for class " + c + " and selector " + s;
+        T.is(name, x.send(s, 0, 0, 0), SendBench.DEEP);
+        T.is(name + ", STEPS", x.taken(0), 13);
+        T.is(name + ", at work", x.taken(1), 12);
+        T.is(name + ", says", x.says(), 0);
+        T.is(name + ", result", x.result(), -SendBench.NIL);
+        T.is(name + ", GLOBAL", x.read(3), SendBench.NIL);
+        T.is(name + ", reachable", x.reachable(), 0);
+        T.is(name + " again", x.send(s, 0, 0, 0), SendBench.DEEP);
+        Words.method(x, 2, s, "SAY ".repeat(31) + "NUM 7");
+        T.is("after " + name, x.send(s, 0, 0, 0), SendBench.OK);
+        T.is("after " + name, x.result(), 7);
+        T.is("after " + name, x.says(), 31);
+    }
+
+    /** Eleven of the twelve have all their tokens under way, and the last one has one fewer: it all comes back. */
+    private static void allTokensUnderWayOnce() {
+        SendBench x = new SendBench();
+        int[] chain = {0, 4, 5, 6, 7, 8, 9};
+        for (int i = 1; i < chain.length; i++) x.cls(chain[i - 1], 0);
+        x.create(0, 9);
+        Words.method(x, 0, 0, "SAY ".repeat(31) + "SUPER 0");
+        for (int c : chain) x.bind(c, 0, 0);
+        Words.method(x, 9, 11, "SAY ".repeat(31) + "SUPER 1");
+        for (int c = 6; c < 9; c++) x.bind(c, 1, 1);
+        Words.method(x, 5, 1, "SAY ".repeat(31) + "NUM 5");
+        T.is("7 by SUPER 0, then by 11, then 4 by SUPER 1", x.send(0, 0, 0, 0), SendBench.OK);
+        T.is("12 come back", x.result(), 5);
+        T.is("12 come back", x.taken(0), 12);
+        T.is("12 come back", x.taken(1), 12);
+        T.is("12 come back", x.says(), 12 * 31);
+        x.bind(5, 1, 1);
+        T.is("none comes back", x.send(0, 0, 0, 0), SendBench.DEEP);
+        T.is("none comes back", x.says(), 0);
     }
 
     /** Each BLOCK of the list keeps three ACTIVATIONS, and each CALL under way stands within three that have ended. */
@@ -82,6 +141,36 @@ public final class LimitsTest {
                 T.is("classes", x.taken(3), a == 0 && b >= 0 && b <= 4 ? 5 : 4);
                 T.is("runs", x.taken(0), 0);
             }
+        }
+    }
+
+    /** What an object answers after its 512th call is free, but no call may throw. */
+    private static void manyCalls() {
+        SendBench x = new SendBench();
+        x.cls(0, 2);
+        long seed = 1;
+        for (int n = 0; n < 200000; n++) {
+            seed = seed * 6364136223846793005L + 1442695040888963407L;
+            int a = (int) (seed >>> 33) % 40 - 4;
+            int b = (int) (seed >>> 40) % 16 - 2;
+            int c = (int) (seed >>> 47) % 16 - 2;
+            oneCall(x, (int) (seed >>> 58) % 16, a, b, c);
+        }
+        T.is("classes at the end", x.taken(3), 10);
+        T.is("BODIES at the end", x.taken(4), 12);
+    }
+
+    private static void oneCall(SendBench x, int which, int a, int b, int c) {
+        switch (which) {
+            case 0: x.cls(b, c); break;
+            case 1: x.wipe(); break;
+            case 2: case 3: x.body(); break;
+            case 4: x.bind(a, b, c); break;
+            case 5: x.create(b, c); break;
+            case 6: case 7: x.send(b, c, a, b); break;
+            case 8: x.field(b, c); break;
+            case 9: x.reachable(); break;
+            default: x.token(a, b); break;
         }
     }
 }
